@@ -349,7 +349,9 @@ final class PromiseTest {
         x.run(7, 0);
         Check.due("no other call is a run()", x.output(0, 1), Float.floatToIntBits(1.5f));
         Check.task(x, "b(-1)");
+        Check.due("none of these", x.run(0, 6) + x.run(0, -1) + x.run(0, Integer.MAX_VALUE) + x.run(1, 0), 4 * NONE);
         Check.due("stays until the next", x.place(3), -7);
+        Check.due("stays until the next", x.output(0, 1), Float.floatToIntBits(1.5f));
         Check.due("ends by 3", x.run(0, 0), 3);
         Check.due("numbers WRITTEN", x.run(0, 2), 30);
         Check.due("as a number, too", x.output(0, 1), -1);
