@@ -36,6 +36,71 @@ final class Check {
         }
     }
 
+    /** A new object with this PROGRAM. */
+    static OnlineParts with(String program) {
+        OnlineParts x = new OnlineParts();
+        due(program, program(x, program) >= 0 ? 1 : 0, 1);
+        return x;
+    }
+
+    /** A new object with this PROGRAM and this TASK. */
+    static OnlineParts with(String program, String task) {
+        OnlineParts x = with(program);
+        due(task, task(x, task) >= 0 ? 1 : 0, 1);
+        return x;
+    }
+
+    /** A new object with this PROGRAM, this TASK and these VALUES. */
+    static OnlineParts with(String program, String task, String values) {
+        OnlineParts x = with(program, task);
+        due(values, values(x, values) >= 0 ? 1 : 0, 1);
+        return x;
+    }
+
+    /** Adds n of them, as even as may be, so that they don't lie deep. */
+    static String sum(String e, int n) {
+        return n == 1 ? e : "(" + sum(e, n / 2) + "+" + sum(e, n - n / 2) + ")";
+    }
+
+    /** The text of a PROGRAM, with a ' ahead of the byte where its FAULT is due (none: it is well). */
+    static void programGoes(String what, String marked) {
+        OnlineParts x = with("l(x)=x;");
+        int at = marked.indexOf('\'');
+        String told = what + " " + marked;
+        due(told, program(x, marked.replace("'", "")) >= 0 ? 1 : 0, at < 0 ? 1 : 0);
+        due(told + " fault()", x.fault(), at);
+        due(told + " all stays", at < 0 ? 1 : x.is(0), 1);
+    }
+
+    /** Likewise the text of a TASK, which has so many LEAVES. */
+    static void taskGoes(String what, String marked, int leaves) {
+        OnlineParts x = new OnlineParts();
+        int at = marked.indexOf('\'');
+        String told = what + " " + marked;
+        due(told, task(x, marked.replace("'", "")), at < 0 ? leaves : -1);
+        due(told + " fault()", x.fault(), at);
+        due(told + " is(1)", x.is(1), at < 0 ? leaves : 0);
+    }
+
+    /** Likewise VALUES for the LEAVES of a TASK. */
+    static void valuesGo(String what, String task, String marked) {
+        OnlineParts x = new OnlineParts();
+        int leaves = task(x, task);
+        int at = marked.indexOf('\'');
+        String told = what + " " + task + " " + marked;
+        due(told, values(x, marked.replace("'", "")), at < 0 ? leaves : -1);
+        due(told + " fault()", x.fault(), at);
+        due(told + " is(2)", x.is(2), at < 0 ? leaves : 0);
+    }
+
+    /** SPECIALISES: as many VARIANTS as texts, and these texts. */
+    static void texts(OnlineParts x, String what, String... want) {
+        due(what, x.specialise(), want.length);
+        for (int k = 0; k < want.length; k++) {
+            due(what + " " + k, text(x, k), want[k]);
+        }
+    }
+
     /** The tape becomes the text (at most 800 bytes). */
     static void tape(OnlineParts x, String text) {
         x.end(0);

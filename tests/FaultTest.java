@@ -11,32 +11,15 @@ final class FaultTest {
     }
 
     private static void program(String marked) {
-        OnlineParts x = new OnlineParts();
-        Check.program(x, "l(x)=x;");
-        int at = marked.indexOf('\'');
-        String text = marked.replace("'", "");
-        int got = Check.program(x, text);
-        Check.due(marked + " is well", got == -1 ? 0 : 1, at < 0 ? 1 : 0);
-        Check.due(marked + " fault()", x.fault(), at);
-        Check.due(marked + " all stays", at < 0 ? 1 : x.is(0), 1);
+        Check.programGoes("", marked);
     }
 
     private static void task(String marked, int leaves) {
-        OnlineParts x = new OnlineParts();
-        int at = marked.indexOf('\'');
-        String text = marked.replace("'", "");
-        Check.due(marked, Check.task(x, text), at < 0 ? leaves : -1);
-        Check.due(marked + " fault()", x.fault(), at);
+        Check.taskGoes("", marked, leaves);
     }
 
     private static void values(String task, String marked) {
-        OnlineParts x = new OnlineParts();
-        int leaves = Check.task(x, task);
-        int at = marked.indexOf('\'');
-        String text = marked.replace("'", "");
-        Check.due(marked, Check.values(x, text), at < 0 ? leaves : -1);
-        Check.due(marked + " fault()", x.fault(), at);
-        Check.due(marked + " is(2)", x.is(2), at < 0 ? leaves : 0);
+        Check.valuesGo("", task, marked);
     }
 
     private static void heads() {

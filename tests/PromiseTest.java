@@ -23,21 +23,9 @@ final class PromiseTest {
         Check.close("PromiseTest");
     }
 
-    private static OnlineParts with(String program) {
-        OnlineParts x = new OnlineParts();
-        Check.due(program, Check.program(x, program) >= 0 ? 1 : 0, 1);
-        return x;
-    }
-
-    private static OnlineParts with(String program, String task) {
-        OnlineParts x = with(program);
-        Check.due(task, Check.task(x, task) >= 0 ? 1 : 0, 1);
-        return x;
-    }
-
     /** The VALUE of a(), whose E is told. */
     private static void isValue(String e, String want) {
-        OnlineParts x = with("a()=" + e + ";");
+        OnlineParts x = Check.with("a()=" + e + ";");
         Check.due(e, x.run(0, 0), 0);
         Check.due(e, Check.value(x), want);
         Check.due(e + " specialised", x.specialise(), 1);
@@ -151,34 +139,25 @@ final class PromiseTest {
         Check.due("fault", x.fault(), 0);
     }
 
-    // 8, 9
+    // 8, 9 (their ends are in EdgeFaceTest)
     private static void settings() {
-        OnlineParts x = with("a()=1;");
-        int[][] ends = {{0, 12}, {1, 6}, {10, 300}};
-        int[] held = {6, 3, 120};
+        OnlineParts x = Check.with("a()=1;");
+        int[] to = {4, 2, 50};
         for (int what = 0; what < 3; what++) {
-            for (int v = -2; v < 310; v++) {
-                boolean may = v >= ends[what][0] && v <= ends[what][1];
-                x.specialise();
-                Check.due("set(" + what + "," + v + ")", x.set(what, v) ? 1 : 0, may ? 1 : 0);
-                Check.due("RESIDUE then", x.residue(0), may ? NONE : 1);
-                held[what] = may ? v : held[what];
-                for (int k = 0; k < 3; k++) {
-                    Check.due("is then", x.is(3 + k), held[k]);
-                }
-            }
-            Check.due("the last one", x.is(3 + what), ends[what][1]);
+            x.specialise();
+            Check.due("set(" + what + "," + to[what] + ")", x.set(what, to[what]) ? 1 : 0, 1);
+            Check.due("is then", x.is(3 + what), to[what]);
+            Check.due("no RESIDUE then", x.residue(0), NONE);
         }
+        x.specialise();
         Check.due("set(3, 1)", x.set(3, 1) ? 1 : 0, 0);
         Check.due("set(-1, 1)", x.set(-1, 1) ? 1 : 0, 0);
-        x.specialise();
-        Check.due("set to the same", x.set(0, 12) ? 1 : 0, 1);
-        Check.due("no RESIDUE then", x.residue(0), NONE);
+        Check.due("the RESIDUE stays", x.residue(0), 1);
     }
 
     // 10
     private static void functions() {
-        OnlineParts x = with("l(x,y,z,m,n)=!!&7[_0,x];c()=c(l());");
+        OnlineParts x = Check.with("l(x,y,z,m,n)=!!&7[_0,x];c()=c(l());");
         int[][] due = {{12, 5, 6, 0, 2, 2}, {3, 0, 2, 2, 0, 0}};
         for (int k = 0; k < 2; k++) {
             for (int what = 0; what < 6; what++) {
@@ -190,7 +169,7 @@ final class PromiseTest {
         Check.due("function(0, -1)", x.function(0, -1), NONE);
         Check.due("function(2, 0)", x.function(2, 0), NONE);
         Check.due("function(-1, 0)", x.function(-1, 0), NONE);
-        Check.due("things", with("a(x)=:y=?(x,[1,2],(x+1)),$^#@~y;").is(7), 15);
+        Check.due("things", Check.with("a(x)=:y=?(x,[1,2],(x+1)),$^#@~y;").is(7), 15);
     }
 
     // I: the EXPRESSIONS
@@ -251,7 +230,7 @@ final class PromiseTest {
 
     // II, 15
     private static void runs() {
-        OnlineParts x = with("a(x)=?(x,b(a((x-1))),0);b(x)=(x+1);", "a(*)");
+        OnlineParts x = Check.with("a(x)=?(x,b(a((x-1))),0);b(x)=(x+1);", "a(*)");
         Check.values(x, "3");
         int[] due = {0, 7, 0, 1, 0, 4, NONE};
         for (int what = 0; what < due.length; what++) {
@@ -270,29 +249,29 @@ final class PromiseTest {
         Check.due("not DONE: no WEIGHT", x.run(0, 3), 0);
 
         // the 101st call: each c() takes itself and 10 of d
-        x = with("d()=1;c()=" + sum("d()", 10) + ";a()=" + sum("c()", 9) + ";b()=(a()+d());", "a()");
+        x = Check.with("d()=1;c()=" + Check.sum("d()", 10) + ";a()=" + Check.sum("c()", 9) + ";b()=(a()+d());", "a()");
         Check.due("100 calls", x.run(0, 0), 0);
         Check.due("100 calls", x.run(0, 1), 100);
         Check.due("at once", x.run(0, 5), 3);
         Check.task(x, "b()");
         Check.due("101 calls", x.run(0, 0), 1);
         Check.due("101 calls", x.run(0, 1), 100);
-        Check.program(x, "d()=1;c()=" + sum("d()", 10) + ";a()=" + sum("c()", 9) + ";b()=(a()+e());");
+        Check.program(x, "d()=1;c()=" + Check.sum("d()", 10) + ";a()=" + Check.sum("c()", 9) + ";b()=(a()+e());");
         Check.due("not told is asked ahead", x.run(0, 0), 1);
-        Check.program(x, "d()=1;c()=" + sum("d()", 10) + ";a()=(" + sum("c()", 9) + "+e());");
+        Check.program(x, "d()=1;c()=" + Check.sum("d()", 10) + ";a()=(" + Check.sum("c()", 9) + "+e());");
         Check.task(x, "a()");
         Check.due("4 ahead of 1", x.run(0, 0), 4);
         Check.due("4 ahead of 1", x.run(0, 1), 100);
 
         // arguments are worked ahead of the call
-        x = with("a()=e(!7);b()=e(b());", "a()");
+        x = Check.with("a()=e(!7);b()=e(b());", "a()");
         Check.due("not told", x.run(0, 0), 4);
         Check.due("its argument was worked", x.output(0, 1), 7);
         Check.task(x, "b()");
         Check.due("too deep ahead of not told", x.run(0, 0), 3);
 
         // WEIGHT: a(3) is a PAIR of 15, a(4) of 31
-        x = with("a(x)=?(x,:y=a((x-1)),[y,y],0);b(x)=[[a(4),0],x];", "a(*)");
+        x = Check.with("a(x)=?(x,:y=a((x-1)),[y,y],0);b(x)=[[a(4),0],x];", "a(*)");
         Check.values(x, "4");
         Check.due("WEIGHT 31", x.run(0, 3), 31);
         Check.due("DEEP 4", x.run(0, 4), 4);
@@ -306,7 +285,7 @@ final class PromiseTest {
 
         // an argument of THE TASK
         String heavy = "[[[1,2],[3,4]],[[5,6],[7,8]]]";
-        x = with("a(x)=x;", "a([[*,*],[*,0]])");
+        x = Check.with("a(x)=x;", "a([[*,*],[*,0]])");
         Check.values(x, "[1,2],[[1,2],[3,4]]," + heavy);
         Check.due("an argument's WEIGHT is 29", x.run(0, 3), 3 + 1 + 3 + 7 + 15);
         Check.task(x, "a([[*,[[0,0],[0,0]]],[[0,[1,1]],[[*,1],[1,1]]]])");
@@ -316,10 +295,6 @@ final class PromiseTest {
         Check.task(x, "k([[*,[[0,0],[0,0]]],[[0,[1,1]],[[*,1],[1,1]]]])");
         Check.values(x, heavy + "," + heavy);
         Check.due("ahead of not told", x.run(0, 0), 2);
-    }
-
-    private static String sum(String e, int n) {
-        return n == 1 ? e : "(" + e + "+" + sum(e, n - 1) + ")";
     }
 
     // 16, 17
@@ -362,7 +337,7 @@ final class PromiseTest {
         for (int k = 0; k < 20; k++) {
             many.append('!');
         }
-        x = with("a(x)=" + many.substring(1) + "x;b(x)=((a(x)+a((x+1)))+(a((x+2))+a((x+3))));", "b(1)");
+        x = Check.with("a(x)=" + many.substring(1) + "x;b(x)=((a(x)+a((x+1)))+(a((x+2))+a((x+3))));", "b(1)");
         Check.due("76 numbers", x.run(0, 2), 76);
         Check.due("the 60th", x.output(59, 1), 4);
         Check.due("58th", x.output(56, 1), 3);
@@ -389,20 +364,13 @@ final class PromiseTest {
         Check.due("written latest", Check.written(x, 12), "b()=r0=-;r0;");
         Check.due("write of none", x.write(1), NONE);
         Check.due("written latest", x.octet(4), 'r');
-        x = with("a()=(-99999*-99999);b()=(0-(-32768*65536));", "b()");
+        x = Check.with("a()=(-99999*-99999);b()=(0-(-32768*65536));", "b()");
         x.run(0, 0);
         Check.due("the least INT", Check.value(x), "-2147483648");
     }
 
     private static void isText(String program, String task, String... want) {
-        isText(with(program, task), program + " " + task, want);
-    }
-
-    private static void isText(OnlineParts x, String what, String... want) {
-        Check.due(what, x.specialise(), want.length);
-        for (int k = 0; k < want.length; k++) {
-            Check.due(what + " " + k, Check.text(x, k), want[k]);
-        }
+        Check.texts(Check.with(program, task), program + " " + task, want);
     }
 
     // III, 11, 19
@@ -426,8 +394,8 @@ final class PromiseTest {
         isText("a(x)=(b(!x)+1);", "a(*)", "a(*)=!r0;r1=-;r2=(r1+1);r2;");
         // unrolled calls take SYMBOLS
         isText("a(x)=b([x,3]);b(x)=(@x*~x);", "a(*)", "a(*)=r1=(r0*3);r1;");
-        Check.due("not told", with("a()=1;", "a(1)").specialise(), -6);
-        OnlineParts x = with("a()=1;", "a()");
+        Check.due("not told", Check.with("a()=1;", "a(1)").specialise(), -6);
+        OnlineParts x = Check.with("a()=1;", "a()");
         Check.due("specialise", x.specialise(), 1);
         Check.due("write(-1)", x.write(-1), NONE);
         Check.due("write(1)", x.write(1), NONE);
@@ -458,30 +426,30 @@ final class PromiseTest {
         isText("a(x)=?(x,b(3),b([x,1]));b(x)=(x*2);", "a(*)",
             "a(*)=r3=?r0{r1=c1();r1}{r2=c2(r0);r2};r3;", "b(3)=6;", "b([*,1])=r1=(r0*2);r1;");
         // no more than UNROLL in one another
-        OnlineParts x = with("a(x)=b((x+1));b(x)=d((x+1));d(x)=(x+1);", "a(*)");
+        OnlineParts x = Check.with("a(x)=b((x+1));b(x)=d((x+1));d(x)=(x+1);", "a(*)");
         x.set(0, 1);
-        isText(x, "UNROLL 1", "a(*)=r1=(r0+1);r2=(r1+1);r3=c1(r2);r3;", "d(*)=r1=(r0+1);r1;");
+        Check.texts(x, "UNROLL 1", "a(*)=r1=(r0+1);r2=(r1+1);r3=c1(r2);r3;", "d(*)=r1=(r0+1);r1;");
         x.set(0, 0);
-        isText(x, "UNROLL 0", "a(*)=r1=(r0+1);r2=c1(r1);r2;", "b(*)=r1=(r0+1);r2=c2(r1);r2;", "d(*)=r1=(r0+1);r1;");
+        Check.texts(x, "UNROLL 0", "a(*)=r1=(r0+1);r2=c1(r1);r2;", "b(*)=r1=(r0+1);r2=c2(r1);r2;", "d(*)=r1=(r0+1);r1;");
         // an argument's call doesn't lie in the call
-        x = with("a(x)=b(b(x));b(x)=(x+1);", "a(*)");
+        x = Check.with("a(x)=b(b(x));b(x)=(x+1);", "a(*)");
         x.set(0, 1);
-        isText(x, "arguments", "a(*)=r1=(r0+1);r2=(r1+1);r2;");
+        Check.texts(x, "arguments", "a(*)=r1=(r0+1);r2=(r1+1);r2;");
         // numbers are remembered by their kind and bits
-        x = with("a(x)=[b(1),[b(1.0),[b(1),[b(0.0),b((0*-1.0))]]]];b(x)=_1;", "a(*)");
+        x = Check.with("a(x)=[b(1),[b(1.0),[b(1),[b(0.0),b((0*-1.0))]]]];b(x)=_1;", "a(*)");
         x.set(0, 0);
         x.set(1, 6);
         Check.due("VARIANTS by kind and bits", x.specialise(), 5);
         Check.due("calls of b(1)", x.variant(1, 5), 2);
         Check.due("b(-0.0)", Check.text(x, 4), "b(f-2147483648)=r0=_1;r0;");
         // functions by letter and how many arguments
-        x = with("a(x)=(a()+a(x,x));a()=_1;a(x,y)=_2;", "a(*)");
+        x = Check.with("a(x)=(a()+a(x,x));a()=_1;a(x,y)=_2;", "a(*)");
         x.set(0, 0);
-        isText(x, "a of 0, 1, 2", "a(*)=r1=c1();r2=c2(r0,r0);r3=(r1+r2);r3;", "a()=r0=_1;r0;", "a(*,*)=r2=_2;r2;");
+        Check.texts(x, "a of 0, 1, 2", "a(*)=r1=c1();r2=c2(r0,r0);r3=(r1+r2);r3;", "a()=r0=_1;r0;", "a(*,*)=r2=_2;r2;");
     }
 
     private static OnlineParts growing(String program, String task) {
-        OnlineParts x = with(program, task);
+        OnlineParts x = Check.with(program, task);
         x.set(0, 0);
         x.set(1, 6);
         return x;
@@ -499,28 +467,28 @@ final class PromiseTest {
         Check.due("came by", x.variant(3, 4), 2);
         // of another sign, as great: let go; another kind, as great: let go; the same: stays
         x = growing("a(x)=a((0-x));", "a(3)");
-        isText(x, "sign", "a(3)=r0=c1(-3);r0;", "a(*)=r1=(0-r0);r2=c1(r1);r2;");
+        Check.texts(x, "sign", "a(3)=r0=c1(-3);r0;", "a(*)=r1=(0-r0);r2=c1(r1);r2;");
         x = growing("a(x)=a(^x);", "a(3)");
-        isText(x, "kind", "a(3)=r0=c1(f1077936128);r0;", "a(*)=r1=^r0;r2=c1(r1);r2;");
+        Check.texts(x, "kind", "a(3)=r0=c1(f1077936128);r0;", "a(*)=r1=^r0;r2=c1(r1);r2;");
         x = growing("a(x)=a(x);", "a(3)");
-        isText(x, "same", "a(3)=r0=c0();r0;");
+        Check.texts(x, "same", "a(3)=r0=c0();r0;");
         Check.due("GROWN", x.residue(8), 0);
         // nan isn't below: nor is another below nan
         x = growing("a(x)=a((0.0/0.0));", "a(3)");
-        isText(x, "nan", "a(3)=r0=c1(f2143289344);r0;", "a(*)=r1=c1(f2143289344);r1;");
+        Check.texts(x, "nan", "a(3)=r0=c1(f2143289344);r0;", "a(*)=r1=c1(f2143289344);r1;");
         Check.due("GROWN, beside VARIANT 0 each time", x.residue(8), 2);
         x = growing("a(x)=b((0.0/0.0));b(x)=?((x=1),0,b(1));", "a(1)");
-        isText(x, "beside nan", "a(1)=r0=c1();r0;", "b(f2143289344)=r0=c2(1);r0;",
+        Check.texts(x, "beside nan", "a(1)=r0=c1();r0;", "b(f2143289344)=r0=c2(1);r0;",
             "b(*)=r1=(r0=1);r3=?r1{0}{r2=c2(1);r2};r3;");
         // a PAIR where a number is: let go, it counts 1
         x = growing("a(x)=a([x,[1,2]]);", "a(5)");
-        isText(x, "PAIR", "a(5)=r0=[1,2];r1=[5,r0];r2=c1(r1);r2;",
+        Check.texts(x, "PAIR", "a(5)=r0=[1,2];r1=[5,r0];r2=c1(r1);r2;",
             "a(*)=r1=[1,2];r2=[r0,r1];r3=c1(r2);r3;");
         Check.due("GROWN", x.residue(8), 2);
         // beside a * a PAIR stays
         x = growing("a(x)=?(@x,a([x,1]),0);", "a(*)");
         x.set(1, 2);
-        isText(x, "PAIR beside *", "a(*)=r1=@r0;r3=?r1{r2=c1(r0);r2}{0};r3;",
+        Check.texts(x, "PAIR beside *", "a(*)=r1=@r0;r3=?r1{r2=c1(r0);r2}{0};r3;",
             "a([*,1])=r4=?r0{r1=[r0,1];r2=[r1,1];r3=c0(r2);r3}{0};r4;");
         Check.due("GROWN", x.residue(8), 0);
         Check.due("calls all *", x.residue(9), 1);
@@ -532,10 +500,10 @@ final class PromiseTest {
         Check.due("GROWN", x.residue(8), 2);
         // a number where a PAIR is, or where a * is, stays
         x = growing("a(x)=?(x,a(7),0);", "a([*,1])");
-        isText(x, "number beside PAIR", "a([*,1])=r2=?r0{r1=c1();r1}{0};r2;", "a(7)=r0=c1();r0;");
+        Check.texts(x, "number beside PAIR", "a([*,1])=r2=?r0{r1=c1();r1}{0};r2;", "a(7)=r0=c1();r0;");
         // the way goes up to VARIANT 0 by what came first, through other functions
         x = growing("a(x)=b((x+1));b(x)=a((x+1));", "a(1)");
-        isText(x, "through another", "a(1)=r0=c1();r0;", "b(2)=r0=c2(3);r0;",
+        Check.texts(x, "through another", "a(1)=r0=c1();r0;", "b(2)=r0=c2(3);r0;",
             "a(*)=r1=(r0+1);r2=c3(r1);r2;", "b(*)=r1=(r0+1);r2=c2(r1);r2;");
         // a sister is not on the way
         x = growing("a(x)=[b(1),b(2)];b(x)=_0;", "a(*)");
@@ -545,10 +513,10 @@ final class PromiseTest {
 
     private static void letGo() {
         // too many VARIANTS of a function
-        OnlineParts x = with("a(x)=[b(1,x),[b(2,x),[b(3,x),b(2,7)]]];b(x,y)=(x+y);", "a(*)");
+        OnlineParts x = Check.with("a(x)=[b(1,x),[b(2,x),[b(3,x),b(2,7)]]];b(x,y)=(x+y);", "a(*)");
         x.set(0, 0);
         x.set(1, 2);
-        isText(x, "VARIANTS 2",
+        Check.texts(x, "VARIANTS 2",
             "a(*)=r1=c1(r0);r2=c2(r0);r3=c3(3,r0);r4=c3(2,7);r5=[r3,r4];r6=[r2,r5];r7=[r1,r6];r7;",
             "b(1,*)=r1=(1+r0);r1;", "b(2,*)=r1=(2+r0);r1;", "b(*,*)=r2=(r0+r1);r2;");
         Check.due("calls all *", x.residue(9), 2);
@@ -561,8 +529,8 @@ final class PromiseTest {
         Check.due("calls all *", x.residue(9), 1);
 
         // BUDGET: 9 INSTRUCTIONS, then calls
-        String nine = sum("_0", 5);
-        x = with("a()=(" + nine + "+b(1));b(x)=x;", "a()");
+        String nine = Check.sum("_0", 5);
+        x = Check.with("a()=(" + nine + "+b(1));b(x)=x;", "a()");
         x.set(0, 0);
         x.set(2, 10);
         Check.due("CODE 9", x.specialise(), 2);
@@ -587,18 +555,18 @@ final class PromiseTest {
         Check.due("in a BLOCK", x.residue(9), 0);
 
         // more than 8 *
-        x = with("a(x,y)=b([[x,y],[x,y]],[[x,y],[x,y]],1);b(x,y,z)=z;", "a(*,*)");
+        x = Check.with("a(x,y)=b([[x,y],[x,y]],[[x,y],[x,y]],1);b(x,y,z)=z;", "a(*,*)");
         x.set(0, 0);
-        isText(x, "8 *", "a(*,*)=r2=c1(r0,r1,r0,r1,r0,r1,r0,r1);r2;", "b([[*,*],[*,*]],[[*,*],[*,*]],1)=1;");
+        Check.texts(x, "8 *", "a(*,*)=r2=c1(r0,r1,r0,r1,r0,r1,r0,r1);r2;", "b([[*,*],[*,*]],[[*,*],[*,*]],1)=1;");
         Check.program(x, "a(x,y)=b([[x,y],x],[[x,y],[x,[y,y]]],[x,1]);b(x,y,z)=z;");
-        isText(x, "9 *", "a(*,*)=r2=[r0,r1];r3=[r2,r0];r4=[r0,r1];r5=[r1,r1];r6=[r0,r5];r7=[r4,r6];r8=[r0,1];"
+        Check.texts(x, "9 *", "a(*,*)=r2=[r0,r1];r3=[r2,r0];r4=[r0,r1];r5=[r1,r1];r6=[r0,r5];r7=[r4,r6];r8=[r0,1];"
             + "r9=c1(r3,r7,r8);r9;", "b(*,*,*)=r2;");
         Check.due("9 *", x.residue(9), 1);
     }
 
     // 12, 13, 14
     private static void residueAndVariants() {
-        OnlineParts x = with("a(x,y)=?(x,[!y,&1x],b(_4,y));b(x,y)=d($x,@y);d(x,y)=[^x,[#x,~y]];", "a(*,[3,2.5])");
+        OnlineParts x = Check.with("a(x,y)=?(x,[!y,&1x],b(_4,y));b(x,y)=d($x,@y);d(x,y)=[^x,[#x,~y]];", "a(*,[3,2.5])");
         Check.due("specialise", x.specialise(), 2);
         // a: !3 &1 [3,2.5]? : the PAIR's first is lifted: [3,2.5], then [r,r1]; _4, c1, 6
         Check.due("a", Check.text(x, 0),
@@ -632,7 +600,7 @@ final class PromiseTest {
 
     // 21, 22
     private static void agreeAndSaved() {
-        OnlineParts x = with("a(x,y)=?(x,(y+a((x-1),y)),0);", "a(3,*)");
+        OnlineParts x = Check.with("a(x,y)=?(x,(y+a((x-1),y)),0);", "a(3,*)");
         Check.values(x, "5");
         Check.due("without a RESIDUE", x.agree(), NONE);
         Check.due("without a RESIDUE", x.saved(), -1000);
@@ -652,7 +620,7 @@ final class PromiseTest {
         Check.due("in b, a and d are UNROLLED", x.residue(2), 2);
         Check.due("the source ends", x.run(0, 0), 3);
         // the source makes a PAIR that is too heavy, the RESIDUE never lifts it
-        x = with("a(x)=@[1,[x,x]];", "a(*)");
+        x = Check.with("a(x)=@[1,[x,x]];", "a(*)");
         Check.values(x, "[[[[1,1],[1,1]],[[1,1],[1,1]]],[[1,1],1]]");
         Check.due("specialise", x.specialise(), 1);
         Check.due("too heavy", x.run(0, 0), 2);
@@ -663,7 +631,7 @@ final class PromiseTest {
         Check.due("they agree", x.agree(), 1);
         Check.due("saved", x.saved(), 0);
         // both end by 3, with other OUTPUTS
-        x = with("a(x)=(!1+a(x));", "a(*)");
+        x = Check.with("a(x)=(!1+a(x));", "a(*)");
         Check.values(x, "1");
         x.set(0, 0);
         x.specialise();
@@ -677,7 +645,7 @@ final class PromiseTest {
         x.specialise();
         Check.due("60 kept of each", x.agree(), 1);
         // PLACES alone
-        x = with("a(x)=(&1(_1+1)+a(x));", "a(*)");
+        x = Check.with("a(x)=(&1(_1+1)+a(x));", "a(*)");
         Check.values(x, "1");
         x.set(0, 0);
         x.specialise();
@@ -686,7 +654,7 @@ final class PromiseTest {
         x.specialise();
         Check.due("unlike PLACES", x.agree(), 0);
         // a call that is let go costs nothing more; saved may be 0
-        x = with("a(x)=?(x,a((x-1)),7);", "a(*)");
+        x = Check.with("a(x)=?(x,a((x-1)),7);", "a(*)");
         Check.values(x, "5");
         x.specialise();
         Check.due("saved", x.saved(), 0);

@@ -37,9 +37,9 @@ public final class OnlineParts {
         tape = new int[TAPE_ROOM];
         tapeSize = 0;
         faultAt = NONE;
-        reader = new Reader(tape);
         functions = new Program();
         spareFunctions = new Program();
+        reader = new Reader(tape, spareFunctions);
         asked = new Pattern(Reader.PARTS);
         spareAsked = new Pattern(Reader.PARTS);
         told = new Pattern(Reader.PARTS);
@@ -47,10 +47,10 @@ public final class OnlineParts {
         areTold = false;
         Store store = new Store();
         left = new Residue();
-        worker = new Worker(store, left);
-        sourceRun = new SourceRun(store);
-        residueRun = new ResidueRun(store);
         latest = new Outcome();
+        worker = new Worker(store, left, functions);
+        sourceRun = new SourceRun(store, functions, latest);
+        residueRun = new ResidueRun(store, left, latest);
         ofSource = new Outcome();
         ofResidue = new Outcome();
         shown = new Pattern(Pattern.HEAVIEST);
@@ -1025,12 +1025,12 @@ public final class OnlineParts {
         private final int[] names;
         private int nameCount;
 
-        Reader(int[] aTape) {
+        Reader(int[] aTape, Program first) {
             tape = aTape;
             size = 0;
             at = 0;
             bad = NONE;
-            into = null;
+            into = first;
             names = new int[Store.SLOTS];
             nameCount = 0;
         }
@@ -1585,12 +1585,12 @@ public final class OnlineParts {
         private Outcome out;
         private int at;
 
-        SourceRun(Store aStore) {
+        SourceRun(Store aStore, Program first, Outcome firstInto) {
             store = aStore;
             leaves = new long[Residue.MOST_STARS];
             arguments = new long[Pattern.ARGUMENTS];
-            program = null;
-            out = null;
+            program = first;
+            out = firstInto;
             at = NONE;
         }
 
@@ -2005,14 +2005,14 @@ public final class OnlineParts {
         private Residue code;
         private Outcome out;
 
-        ResidueRun(Store aStore) {
+        ResidueRun(Store aStore, Residue first, Outcome firstInto) {
             store = aStore;
             registers = new long[(Outcome.DEEPEST + 1) * MOST_REGISTERS];
             leaves = new long[Residue.MOST_STARS];
             openBlock = new int[OPEN_ROOM];
             openAt = new int[OPEN_ROOM];
-            code = null;
-            out = null;
+            code = first;
+            out = firstInto;
             open = 0;
             base = 0;
         }
@@ -2201,13 +2201,13 @@ public final class OnlineParts {
         private final long[] leaves;
         private final long[] symbols;
 
-        Worker(Store aStore, Residue aResidue) {
+        Worker(Store aStore, Residue aResidue, Program first) {
             unroll = 6;
             variants = 3;
             budget = 120;
             store = aStore;
             left = aResidue;
-            program = null;
+            program = first;
             branches = new int[BRANCHES * BRANCH_COLUMNS];
             conditions = new long[BRANCHES];
             call = new Pattern(Pattern.ARGUMENTS * Pattern.HEAVIEST);
