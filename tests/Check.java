@@ -93,6 +93,22 @@ final class Check {
         due(told + " is(2)", x.is(2), at < 0 ? leaves : 0);
     }
 
+    /** THE TEXT of a VARIANT, by so many objects that none of them is used for more than 512 calls. */
+    static String longText(String program, String task, int unroll, int k) {
+        StringBuilder b = new StringBuilder();
+        int size = 1;
+        while (b.length() < size) {
+            OnlineParts x = with(program, task);
+            x.set(0, unroll);
+            x.specialise();
+            size = x.write(k);
+            for (int n = 0; n < 400 && b.length() < size; n++) {
+                b.append((char) x.octet(b.length()));
+            }
+        }
+        return b.toString();
+    }
+
     /** SPECIALISES: as many VARIANTS as texts, and these texts. */
     static void texts(OnlineParts x, String what, String... want) {
         due(what, x.specialise(), want.length);

@@ -44,6 +44,14 @@ final class EdgeRunTest {
         Check.due(sentence + " " + e, x.run(1, 0), 0);
         Check.due(sentence + " " + e, Check.value(x), want);
         Check.due(sentence + " " + e, x.agree(), 1);
+        if ("$^#@~".indexOf(e.charAt(0)) >= 0) {
+            // by an INSTRUCTION of the RESIDUE, too: what it is of comes out of a 6
+            OnlineParts y = Check.with("a(x)=" + e.charAt(0) + "?(x," + e.substring(1) + ",-77777);", "a(*)", "1");
+            Check.due(sentence + " left over " + e, y.specialise(), 1);
+            Check.due(sentence + " left over " + e, y.kinds(0, "$^#@~".indexOf(e.charAt(0)) + 1), 1);
+            Check.due(sentence + " left over " + e, y.run(1, 0), 0);
+            Check.due(sentence + " left over " + e, Check.value(y), want);
+        }
     }
 
     private static void is(String sentence, String e, int want) {
@@ -617,6 +625,30 @@ final class EdgeRunTest {
         Check.values(x, "[" + heavy + ",[1,1]]");
         Check.due("one ends by 2", x.agree(), 0);
         Check.due("one isn't DONE", x.saved(), -1000);
+        x = Check.with("a(x)=(@[1,[x,x]]+e());", "a(*)", "[" + heavy + ",[1,1]]");
+        x.specialise();
+        Check.due("one ends by 2", x.run(0, 0), 2);
+        Check.due("the other by 4", x.run(1, 0), 4);
+        Check.due("neither DONE, unlike ends", x.agree(), 0);
+        // PLACES: the RESIDUE, UNROLLED, comes further ahead of its end by 3
+        for (int d = 0; d < 8; d++) {
+            x = Check.with("a(x)=(&" + d + "(_" + d + "+1)+a(x));", "a(*)", "1");
+            x.set(0, 0);
+            x.specialise();
+            Check.due("like PLACES", x.agree(), 1);
+            x.set(0, 1);
+            x.specialise();
+            Check.due("like ends", x.run(0, 0) * 10 + x.run(1, 0), 33);
+            Check.due("unlike PLACES", x.agree(), 0);
+        }
+        // OUTPUTS likewise
+        x = Check.with("a(x)=(!7+a(x));", "a(*)", "1");
+        x.set(0, 0);
+        x.specialise();
+        Check.due("like OUTPUTS", x.agree(), 1);
+        x.set(0, 1);
+        x.specialise();
+        Check.due("unlike OUTPUTS", x.agree(), 0);
         // OUTPUTS: 60 are kept of each, of those behind one has more
         String many = Check.sum("!".repeat(14) + "1", 4);
         x = Check.with("a(x)=((" + many + "+!!!1)+b(x));b(x)=(!!5+b(x));", "a(*)", "1");

@@ -11,6 +11,8 @@ final class EdgeWorkTest {
 
     public static void main(String[] args) {
         tooMuchCode();
+        fullOfOneKind();
+        fullRooms();
         tooMuchUnrolled();
         tooManyVariants();
         tooHeavy();
@@ -30,6 +32,7 @@ final class EdgeWorkTest {
         blocksWithOneEnd();
         knownAndNot();
         textOfNumbers();
+        countsOfTheResidue();
         aboutTheResidue();
         Check.close("EdgeWorkTest");
     }
@@ -79,6 +82,64 @@ final class EdgeWorkTest {
         Check.due("300 of two VARIANTS", x.variant(1, 3), 2);
         Check.program(x, code(298, "g()").replace("h()=1;", "h()=!!1;"));
         Check.due("301 of two VARIANTS", x.specialise(), -2);
+    }
+
+    /** 300 INSTRUCTIONS of one kind, each of what the one ahead is: THE TEXT is whole, and they agree. */
+    private static void fullOfOneKind() {
+        String[] opens = {"(", "$", "^", "#", "@", "~", "?(", "!", "&0"};
+        String[] closes = {"+1)", "", "", "", "", "", ",1,2)", "", ""};
+        String[] signs = {"(", "$", "^", "#", "@", "~", "?", "!", "&0"};
+        String[] ends = {"+1)", "", "", "", "", "", "{1}{2}", "", ""};
+        for (int kind = 0; kind < opens.length; kind++) {
+            String program = "b(x)=" + opens[kind].repeat(15) + "x" + closes[kind].repeat(15)
+                + ";c(x)=b(b(b(b(b(x)))));a(x)=c(c(c(c(x))));";
+            OnlineParts x = Check.with(program, "a(*)", "5");
+            Check.due("300 of kind " + kind, x.specialise(), 1);
+            Check.due("300 of kind " + kind, x.residue(1), 300);
+            Check.due("300 of kind " + kind, x.kinds(0, kind), 300);
+            Check.due("300 of kind " + kind, x.variant(0, 3), 300);
+            Check.due("its REGISTERS", x.variant(0, 1), kind == 7 ? 1 : 301);
+            Check.due("they agree", x.agree(), 1);
+            Check.due("25 calls, 1 call", x.saved(), 24);
+            StringBuilder want = new StringBuilder("a(*)=");
+            for (int k = 1; k <= 300; k++) {
+                String row = kind == 7 ? "!r0" : "r" + k + "=" + signs[kind] + "r" + (k - 1) + ends[kind];
+                want.append(row).append(';');
+            }
+            want.append(kind == 7 ? "r0;" : "r300;");
+            Check.due("THE TEXT of kind " + kind, Check.longText(program, "a(*)", 6, 0), want.toString());
+        }
+    }
+
+    /** As many REGISTERS and PAIRS as may be, in as many calls as may be. */
+    private static void fullRooms() {
+        // 280 REGISTERS and more, 30 calls in one another: y is x, the VALUE is the sum of 0 to 29
+        OnlineParts x = Check.with("b(x)=" + "$".repeat(14) + "x;c(x)=b(b(b(b(b(x)))));a(x)=:y=c(c(c(c(x)))),?(x,(a((x-1))+y),y);",
+            "a(*)", "29");
+        Check.due("30 calls of many REGISTERS", x.specialise(), 1);
+        Check.due("its REGISTERS", x.variant(0, 1), 285);
+        Check.due("30 in one another", x.run(1, 0), 0);
+        Check.due("30 in one another", x.run(1, 5), 30);
+        Check.due("the sum", Check.value(x), "435");
+        // 234 PAIRS in each of 81 calls; NUM of each PAIR is x
+        x = Check.with("b(x)=?(_0,0," + "[".repeat(18) + "x" + ",1]".repeat(18) + ");"
+            + "a(x)=(" + Check.sum("b(x)", 13) + "+?((x<1),0,(a((x-1))+a((x-3)))));", "a(*)", "9");
+        Check.due("81 calls of many PAIRS", x.specialise(), 1);
+        Check.due("its PAIRS", x.residue(6), 234);
+        Check.due("81 calls", x.run(1, 1), 81);
+        Check.due("the sum", Check.value(x), "" + thirteenTimes(9));
+        // a call of eight *, and with what stands at each
+        x = Check.with("a(m,n,o,p,q)=?(m,b([n,m],[p,o],[[1,q],m],[n,q]),0);"
+            + "b(m,n,o,p)=[[[@m,~m],[@n,~n]],[[~@o,~o],[@p,~p]]];", "a(*,*,*,*,*)", "1,2,3,4,5");
+        Check.due("eight *", x.specialise(), 2);
+        Check.due("eight *", x.variant(1, 2), 8);
+        x.run(1, 0);
+        Check.due("from the left", Check.value(x), "[[[2,1],[4,3]],[[5,1],[2,5]]]");
+        Check.due("they agree", x.agree(), 1);
+    }
+
+    private static int thirteenTimes(int n) {
+        return 13 * n + (n < 1 ? 0 : thirteenTimes(n - 1) + thirteenTimes(n - 3));
     }
 
     private static void tooMuchUnrolled() {
@@ -559,6 +620,21 @@ final class EdgeWorkTest {
             Check.due("how many bytes", x.write(0), text.length());
             Check.due("its last byte", x.octet(text.length() - 1), ';');
             Check.due("behind it", x.octet(text.length()), -1);
+        }
+    }
+
+    /** Promise 12: each count by itself, of a RESIDUE in which no two are alike. */
+    private static void countsOfTheResidue() {
+        OnlineParts x = Check.with("a(x)=?(x,[b(!_0),[b(&0!!!!x),&1!_1]],?(_2,c(7),[c(9),[d(1),[d(2),[d(3),d(4)]]]]));"
+            + "b(x)=[e(),[e(),[e(),[e(),[e(),[e(),e()]]]]]];c(x)=c((x+1));d(x)=?(x,x,0);e()=[1,!2];", "a(*)");
+        x.set(0, 1);
+        // a: 3 GETS, 2 PUTS, 6 OUTS, 8 calls, 6 LIFTS, 2 IFS; b(*): 7 e() UNROLLED, 7 OUTS, 13 LIFTS;
+        // c(7), c(9): one UNROLLED and one call each, GROWN; c(*): two +, one UNROLLED, one call;
+        // d(1), d(2), d(3): none; d(*), for which d(4) is let go: an IF
+        int[] due = {9, 53, 10, 11, 13, 5, 19, 3, 2, 1};
+        x.specialise();
+        for (int what = 0; what < due.length; what++) {
+            Check.due("residue(" + what + ")", x.residue(what), due[what]);
         }
     }
 
