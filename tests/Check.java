@@ -10,18 +10,23 @@ final class Check {
         if (got == want) {
             passed++;
         } else {
-            failed++;
-            if (failed <= 40) {
-                System.out.println(what + " answered " + got + ", due is " + want);
-            }
+            report(what + " answered " + got + ", due is " + want);
         }
     }
 
     static void due(String what, String got, String want) {
-        if (!got.equals(want)) {
-            System.out.println(what + " answered " + got + ", due is " + want);
+        if (got.equals(want)) {
+            passed++;
+        } else {
+            report(what + " answered " + got + ", due is " + want);
         }
-        due(what, got.equals(want) ? 1 : 0, 1);
+    }
+
+    private static void report(String wrong) {
+        failed++;
+        if (failed <= 40) {
+            System.out.println(wrong);
+        }
     }
 
     static boolean allDue() {

@@ -18,6 +18,11 @@ final class EdgeFaceTest {
         opSigns();
         opEdges();
         lastCalls();
+        programsAgain();
+        runsAgain();
+        runsBrokenAgain();
+        specialisedAgain();
+        brokenOffAgain();
         objectsApart();
         Check.close("EdgeFaceTest");
     }
@@ -319,6 +324,96 @@ final class EdgeFaceTest {
         Check.due("the 510th call", x.specialise(), 1);
         Check.due("the 511th call", x.run(1, 3), 7);
         Check.due("the 512th call", x.agree(), 1);
+    }
+
+    /** As many PROGRAMS of as many bytes as 512 calls may tell: each is told as the first. */
+    private static void programsAgain() {
+        OnlineParts x = new OnlineParts();
+        String program = longProgram(800);
+        for (int round = 0; round < 11; round++) {
+            Check.due("told again " + round, Check.program(x, program), 5);
+            Check.due("its things " + round, x.is(7), 3 * 53 + 11 + 17);
+            Check.due("its last function " + round, x.function(4, 2), 17);
+        }
+        Check.task(x, "l()");
+        Check.due("its last function", x.run(0, 0), 0);
+        Check.due("its last function", Check.value(x), "7");
+        Check.due("its last function", x.specialise(), 1);
+        Check.due("its last function", Check.text(x, 0), "l()=7;");
+    }
+
+    /** RUNS that make many PAIRS, one after the other: each is as the first. a(x) is 13 x and what it calls. */
+    private static void runsAgain() {
+        OnlineParts x = Check.with("b(x)=?(_0,0," + "[".repeat(18) + "x" + ",1]".repeat(18) + ");"
+            + "a(x)=(" + Check.sum("b(x)", 13) + "+?((x<1),0,(a((x-1))+a((x-3)))));", "a(*)", "3");
+        x.specialise();
+        for (int round = 0; round < 40; round++) {
+            Check.due("run(0) again " + round, x.run(0, 1), 98);
+            Check.due("its VALUE", Check.value(x), "39");
+        }
+        Check.values(x, "9");
+        for (int round = 0; round < 40; round++) {
+            Check.due("run(1) again " + round, x.run(1, 1), 81);
+            Check.due("its VALUE", Check.value(x), "1053");
+        }
+    }
+
+    /** RUNS that end with much under way, by each end: the next one is as the first. */
+    private static void runsBrokenAgain() {
+        String[] holes = {"a()", "(" + Check.sum("b()", 20) + "+a())", "[" + "[1,".repeat(9) + "1" + "]".repeat(9) + ",c()]", "e()"};
+        int[] ends = {3, 1, 2, 4};
+        for (int k = 0; k < holes.length; k++) {
+            OnlineParts x = Check.with("a()=[1,[2,[3,[4," + (k == 3 ? "f()" : holes[k]) + "]]]];b()=1;c()=" + "[1,".repeat(12) + "1"
+                + "]".repeat(12) + ";d(x)=[x,[_0,_4]];f()=[1,[2,?(_0,1,e())]];", "a()");
+            x.set(0, 0);
+            Check.due("SPECIALISED", x.specialise() > 0 ? 1 : 0, 1);
+            for (int round = 0; round < 100; round++) {
+                Check.due("ends by " + ends[k] + " again", x.run(0, 0), ends[k]);
+                Check.due("ends by " + ends[k] + " again, the RESIDUE", x.run(1, 0), ends[k]);
+            }
+            Check.task(x, "d(*)");
+            Check.values(x, "7");
+            x.specialise();
+            for (int where = 0; where < 2; where++) {
+                Check.due("then one that is DONE", x.run(where, 0), 0);
+                Check.due("then one that is DONE", Check.value(x), "[7,[0,f0]]");
+                Check.due("then one that is DONE", x.run(where, 1), 1);
+                Check.due("then one that is DONE", x.run(where, 5), 1);
+            }
+        }
+    }
+
+    /** A RESIDUE of 300 IFS, again and again: each is as the first. */
+    private static void specialisedAgain() {
+        OnlineParts x = Check.with("b(x)=" + "?(".repeat(15) + "x" + ",1,2)".repeat(15)
+            + ";c(x)=b(b(b(b(b(x)))));a(x)=c(c(c(c(x))));g(x)=?(x,g(7),g(2));", "a(*)", "0");
+        for (int round = 0; round < 30; round++) {
+            Check.due("SPECIALISED again " + round, x.specialise(), 1);
+            Check.due("its IFS", x.residue(7), 300);
+            Check.due("UNROLLED", x.residue(2), 24);
+            Check.due("they agree", x.agree(), 1);
+            Check.due("its VALUE", x.run(1, 3), 1);
+        }
+        Check.task(x, "g(*)");
+        x.set(0, 0);
+        x.set(1, 1);
+        for (int round = 0; round < 30; round++) {
+            Check.due("SPECIALISED again " + round, x.specialise(), 1);
+            Check.due("calls all *", x.residue(9), 2);
+            Check.due("calls of it", x.variant(0, 5), 2);
+        }
+    }
+
+    /** It breaks off in BLOCKS and in ? of known numbers: the next one is as the first. */
+    private static void brokenOffAgain() {
+        String heavy = "[[" + "[1,".repeat(8) + "1" + "]".repeat(8) + "," + "[1,".repeat(8) + "1" + "]".repeat(8) + "],[y,y]]";
+        OnlineParts x = Check.with("a(x,y)=?(x,?(1,?(1,?(1,?(x," + heavy + ",1),1),1),1),1);b(x)=c(x);c(x)=?(1,(x+1),0);", "a(*,[[1,2],3])");
+        for (int round = 0; round < 200; round++) {
+            Check.due("breaks off again " + round, x.specialise(), -5);
+        }
+        Check.task(x, "b(*)");
+        Check.texts(x, "then one that stands", "b(*)=r1=(r0+1);r1;");
+        Check.due("UNROLLED", x.residue(2), 1);
     }
 
     /** What one object holds is none of another's. */

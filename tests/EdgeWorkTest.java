@@ -113,11 +113,11 @@ final class EdgeWorkTest {
 
     /** As many REGISTERS and PAIRS as may be, in as many calls as may be. */
     private static void fullRooms() {
-        // 280 REGISTERS and more, 30 calls in one another: y is x, the VALUE is the sum of 0 to 29
-        OnlineParts x = Check.with("b(x)=" + "$".repeat(14) + "x;c(x)=b(b(b(b(b(x)))));a(x)=:y=c(c(c(c(x)))),?(x,(a((x-1))+y),y);",
+        // 299 REGISTERS, 30 calls in one another: y is x, the VALUE is the sum of 0 to 29
+        OnlineParts x = Check.with("b(x)=" + "$".repeat(14) + "x;c(x)=b(b(b(b(b(x)))));a(x)=:y=b(c(c(c(c(x))))),?(x,(a((x-1))+y),y);",
             "a(*)", "29");
         Check.due("30 calls of many REGISTERS", x.specialise(), 1);
-        Check.due("its REGISTERS", x.variant(0, 1), 285);
+        Check.due("its REGISTERS", x.variant(0, 1), 299);
         Check.due("30 in one another", x.run(1, 0), 0);
         Check.due("30 in one another", x.run(1, 5), 30);
         Check.due("the sum", Check.value(x), "435");
@@ -128,6 +128,17 @@ final class EdgeWorkTest {
         Check.due("its PAIRS", x.residue(6), 234);
         Check.due("81 calls", x.run(1, 1), 81);
         Check.due("the sum", Check.value(x), "" + thirteenTimes(9));
+        // 19 ? in one another in each of 13 calls, all of known numbers; 19 IFS in each of 30 calls
+        x = Check.with("a()=" + "?(1,".repeat(19) + "a()" + ",0)".repeat(19) + ";b()=" + "?(_0,1,".repeat(19) + "b()" + ")".repeat(19) + ";", "a()");
+        x.set(0, 12);
+        Check.texts(x, "? in one another", "a()=r0=c0();r0;");
+        Check.due("12 UNROLLED", x.residue(2), 12);
+        Check.task(x, "b()");
+        Check.due("IFS in one another", x.specialise(), 1);
+        Check.due("IFS in one another", x.residue(7), 19);
+        Check.due("IFS in one another", x.run(1, 0), 3);
+        Check.due("IFS in one another", x.run(1, 1), 30);
+        Check.due("IFS in one another", x.agree(), 1);
         // a call of eight *, and with what stands at each
         x = Check.with("a(m,n,o,p,q)=?(m,b([n,m],[p,o],[[1,q],m],[n,q]),0);"
             + "b(m,n,o,p)=[[[@m,~m],[@n,~n]],[[~@o,~o],[@p,~p]]];", "a(*,*,*,*,*)", "1,2,3,4,5");
