@@ -326,20 +326,28 @@ final class EdgeFaceTest {
         Check.due("the 512th call", x.agree(), 1);
     }
 
-    /** As many PROGRAMS of as many bytes as 512 calls may tell: each is told as the first. */
+    /** A PROGRAM that has many things, less than 800 bytes: 20 in each of 29 functions. */
+    private static String denseProgram() {
+        StringBuilder b = new StringBuilder();
+        for (int k = 0; k < 29; k++) {
+            b.append((char) ('a' + k % 12)).append(k < 12 ? "()=" : k < 24 ? "(x)=" : "(x,y)=").append("$".repeat(19)).append(k % 10).append(';');
+        }
+        return b.toString();
+    }
+
+    /** As many PROGRAMS as 512 calls may tell: each is told as the first. */
     private static void programsAgain() {
         OnlineParts x = new OnlineParts();
-        String program = longProgram(800);
         for (int round = 0; round < 11; round++) {
-            Check.due("told again " + round, Check.program(x, program), 5);
-            Check.due("its things " + round, x.is(7), 3 * 53 + 11 + 17);
-            Check.due("its last function " + round, x.function(4, 2), 17);
+            Check.due("told again " + round, Check.program(x, denseProgram()), 29);
+            Check.due("its things " + round, x.is(7), 29 * 20);
+            Check.due("its last function " + round, x.function(28, 2), 20);
         }
-        Check.task(x, "l()");
+        Check.task(x, "e(1,2)");
         Check.due("its last function", x.run(0, 0), 0);
-        Check.due("its last function", Check.value(x), "7");
+        Check.due("its last function", Check.value(x), "8");
         Check.due("its last function", x.specialise(), 1);
-        Check.due("its last function", Check.text(x, 0), "l()=7;");
+        Check.due("its last function", Check.text(x, 0), "e(1,2)=8;");
     }
 
     /** RUNS that make many PAIRS, one after the other: each is as the first. a(x) is 13 x and what it calls. */
@@ -413,7 +421,9 @@ final class EdgeFaceTest {
         }
         Check.task(x, "b(*)");
         Check.texts(x, "then one that stands", "b(*)=r1=(r0+1);r1;");
+        Check.due("INSTRUCTIONS", x.residue(1), 1);
         Check.due("UNROLLED", x.residue(2), 1);
+        Check.due("IFS", x.residue(7), 0);
     }
 
     /** What one object holds is none of another's. */

@@ -113,14 +113,14 @@ final class EdgeWorkTest {
 
     /** As many REGISTERS and PAIRS as may be, in as many calls as may be. */
     private static void fullRooms() {
-        // 299 REGISTERS, 30 calls in one another: y is x, the VALUE is the sum of 0 to 29
-        OnlineParts x = Check.with("b(x)=" + "$".repeat(14) + "x;c(x)=b(b(b(b(b(x)))));a(x)=:y=b(c(c(c(c(x))))),?(x,(a((x-1))+y),y);",
+        // 300 REGISTERS, 30 calls in one another: y is x and 7, the VALUE is the sum of 7 to 36
+        OnlineParts x = Check.with("b(x)=" + "$".repeat(14) + "x;c(x)=b(b(b(b(b(x)))));a(x)=:y=b(c(c(c(c((x+7)))))),?(x,(a((x-1))+y),y);",
             "a(*)", "29");
         Check.due("30 calls of many REGISTERS", x.specialise(), 1);
-        Check.due("its REGISTERS", x.variant(0, 1), 299);
+        Check.due("its REGISTERS", x.variant(0, 1), 300);
         Check.due("30 in one another", x.run(1, 0), 0);
         Check.due("30 in one another", x.run(1, 5), 30);
-        Check.due("the sum", Check.value(x), "435");
+        Check.due("the sum", Check.value(x), "645");
         // 234 PAIRS in each of 81 calls; NUM of each PAIR is x
         x = Check.with("b(x)=?(_0,0," + "[".repeat(18) + "x" + ",1]".repeat(18) + ");"
             + "a(x)=(" + Check.sum("b(x)", 13) + "+?((x<1),0,(a((x-1))+a((x-3)))));", "a(*)", "9");
