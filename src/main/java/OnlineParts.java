@@ -328,13 +328,21 @@ public final class OnlineParts {
             }
             int x = floatBits(a);
             int y = floatBits(b);
-            if (sign == '<') {
-                return make(INT, isBelow(x, y) ? 1 : 0);
+            boolean nan = isNan(x) || isNan(y);
+            switch (sign) {
+                case '<':
+                    return make(INT, isBelow(x, y) ? 1 : 0);
+                case '=':
+                    return make(INT, isEqual(x, y) ? 1 : 0);
+                case '+':
+                    return make(FLOAT, nan ? NAN : add(x, y));
+                case '-':
+                    return make(FLOAT, nan ? NAN : add(x, y ^ ~SIZE));
+                case '*':
+                    return make(FLOAT, nan ? NAN : multiply(x, y));
+                default:
+                    return make(FLOAT, nan ? NAN : divide(x, y));
             }
-            if (sign == '=') {
-                return make(INT, isEqual(x, y) ? 1 : 0);
-            }
-            return make(FLOAT, applyFloats(sign, x, y));
         }
 
         private static int rest(int a, int b) {
@@ -355,22 +363,6 @@ public final class OnlineParts {
                     return a < b ? 1 : 0;
                 default:
                     return a == b ? 1 : 0;
-            }
-        }
-
-        private static int applyFloats(int sign, int x, int y) {
-            if (isNan(x) || isNan(y)) {
-                return NAN;
-            }
-            switch (sign) {
-                case '+':
-                    return add(x, y);
-                case '-':
-                    return add(x, y ^ ~SIZE);
-                case '*':
-                    return multiply(x, y);
-                default:
-                    return divide(x, y);
             }
         }
 
@@ -1512,8 +1504,7 @@ public final class OnlineParts {
             written++;
         }
 
-        long put(int d, long num) {
-            long stored = Numbers.stored(d, num);
+        long put(int d, long stored) {
             if (d >= 0 && d < PLACES) {
                 places[d] = Numbers.bits(stored);
             }
@@ -1652,7 +1643,7 @@ public final class OnlineParts {
                     out.writeOut(store.num(store.fromTop(0)));
                     break;
                 case Program.PUT:
-                    store.push(out.put(mark, store.popNum()));
+                    store.push(out.put(mark, Numbers.stored(mark, store.popNum())));
                     break;
                 case Program.GET:
                     store.push(out.get(mark));
@@ -2122,7 +2113,7 @@ public final class OnlineParts {
                     goOn(at, Numbers.ZERO);
                     break;
                 case Residue.PUT:
-                    goOn(at, out.put(mark, num(at, 0)));
+                    goOn(at, out.put(mark, Numbers.stored(mark, num(at, 0))));
                     break;
                 case Residue.GET:
                     goOn(at, out.get(mark));
@@ -2338,7 +2329,10 @@ public final class OnlineParts {
                     store.setVar(mark, store.pop());
                     break;
                 case Program.CALL:
-                    workCall(mark, bits);
+                    if (!workCall(mark, bits)) {
+                        shapeCall(mark, bits);
+                        leaveCall(mark);
+                    }
                     break;
                 default:
                     goBack();
@@ -2486,21 +2480,25 @@ public final class OnlineParts {
             store.push(Numbers.isKnown(end) && end == left.endOf(two) ? end : register);
         }
 
-        private void workCall(int key, int n) {
+        /** Whether a call is WORKED on the spot; if not, it is to be left as a call of a VARIANT. */
+        private boolean workCall(int key, int n) {
             int start = program.startOf(key);
             if (start == NONE) {
                 store.drop(n);
                 store.push(leave(Residue.UNTOLD, 0, Numbers.ZERO, Numbers.ZERO));
-            } else if (openBlocks > 0 || store.depth >= unroll) {
-                shapeCall(key, n);
-                leaveCall(key);
-            } else if (left.unrolled >= MOST_UNROLLED) {
-                breakOff(TOO_MUCH_UNROLLED);
-            } else {
-                left.unrolled++;
-                store.openFrame(n, at);
-                at = start;
+                return true;
             }
+            if (openBlocks > 0 || store.depth >= unroll) {
+                return false;
+            }
+            if (left.unrolled >= MOST_UNROLLED) {
+                breakOff(TOO_MUCH_UNROLLED);
+                return true;
+            }
+            left.unrolled++;
+            store.openFrame(n, at);
+            at = start;
+            return true;
         }
 
         /** The call's PATTERN, less what has grown beside the VARIANTS that led to it. */
